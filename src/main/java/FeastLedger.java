@@ -37,7 +37,7 @@ public final class FeastLedger {
 
     public FeastLedger() {
         tape = new Tape();
-        reader = new TextReader(tape);
+        reader = new TextReader();
         customs = new Customs();
         chiefs = new Chiefs();
         debts = new Debts();
@@ -76,7 +76,7 @@ public final class FeastLedger {
         if (customs.size >= MOST_CUSTOMS) {
             throw new IllegalStateException("there are 20 customs");
         }
-        reader.read(n);
+        reader.read(tape.bytes, n);
         tape.length = 0;
         faultPlace = reader.faultPlace;
         if (reader.fault != TextReader.NO_FAULT) {
@@ -341,8 +341,7 @@ public final class FeastLedger {
     private void checkFeast(int host, int guests, int size, int witnesses) {
         checkChief(host);
         int all = guests | witnesses;
-        // shifted without sign, so that the highest bit counts as a chief that there is not
-        if (all >>> chiefs.size != 0 || isIn(all, host) || (guests & witnesses) != 0) {
+        if (all >> chiefs.size != 0 || isIn(all, host) || (guests & witnesses) != 0) {
             throw new IllegalArgumentException("guests and witnesses are chiefs, each one once");
         }
         if (size < 1 || size > MOST_SIZE) {
@@ -408,7 +407,7 @@ public final class FeastLedger {
     }
 
     /**
-     * Reads a custom's text from the tape. Within a clause it goes on behind a fault, but keeps only
+     * Reads a custom's text. Within a clause it goes on behind a fault, but keeps only
      * the first one: it never goes back, so that one is the first from the left.
      */
     private static final class TextReader {
@@ -419,7 +418,7 @@ public final class FeastLedger {
         private static final int MOST_CLAUSES = 8;
         private static final int MOST_NUMBER = 1_000;
 
-        private final Tape tape;
+        private final byte[] text = new byte[MOST_TAPE];
         private int length;
         private int at;
         int fault;
@@ -431,20 +430,15 @@ public final class FeastLedger {
         int loanBy;
         int witness;
 
-        TextReader(Tape tape) {
-            this.tape = tape;
-        }
-
-        /** The first n bytes of the tape, which has so many. */
-        void read(int n) {
+        /** The first n of the tape's bytes, which are at least so many. */
+        void read(byte[] bytes, int n) {
+            System.arraycopy(bytes, 0, text, 0, n);
             length = n;
             at = 0;
             fault = NO_FAULT;
             faultPlace = NONE;
-            returnTimes = 0;
+            // by 0 stands for a clause that is not there: its other numbers do not count then
             returnBy = 0;
-            within = 0;
-            loanTimes = 0;
             loanBy = 0;
             witness = 0;
             skipBlanks();
@@ -506,7 +500,7 @@ public final class FeastLedger {
 
         private void readSign(char sign) {
             skipBlanks();
-            if (at < length && tape.bytes[at] == sign) {
+            if (at < length && text[at] == sign) {
                 at++;
             } else {
                 mark(CANNOT_STAND, at);
@@ -517,9 +511,9 @@ public final class FeastLedger {
             skipBlanks();
             int start = at;
             int value = 0;
-            while (at < length && tape.bytes[at] >= '0' && tape.bytes[at] <= '9') {
+            while (at < length && text[at] >= '0' && text[at] <= '9') {
                 // cut just above the bound, as any count of digits may stand here
-                value = Math.min(value * 10 + tape.bytes[at] - '0', MOST_NUMBER + 1);
+                value = Math.min(value * 10 + text[at] - '0', MOST_NUMBER + 1);
                 at++;
             }
             if (at == start) {
@@ -531,13 +525,13 @@ public final class FeastLedger {
         }
 
         private void skipBlanks() {
-            while (at < length && tape.bytes[at] == ' ') {
+            while (at < length && text[at] == ' ') {
                 at++;
             }
         }
 
         private void skipLetters() {
-            while (at < length && tape.bytes[at] >= 'a' && tape.bytes[at] <= 'z') {
+            while (at < length && text[at] >= 'a' && text[at] <= 'z') {
                 at++;
             }
         }
@@ -548,7 +542,7 @@ public final class FeastLedger {
                 return false;
             }
             for (int i = 0; i < word.length(); i++) {
-                if (tape.bytes[start + i] != word.charAt(i)) {
+                if (text[start + i] != word.charAt(i)) {
                     return false;
                 }
             }
@@ -660,6 +654,7 @@ public final class FeastLedger {
 
     private static final class Debts {
         static final int DUE_OF_LOANS = NONE;
+        private static final int BEHIND_ALL_YEARS = 1_000_000;
 
         final int[] debtor = new int[MOST_DEBTS];
         final int[] creditor = new int[MOST_DEBTS];
@@ -749,7 +744,7 @@ public final class FeastLedger {
 
         /** Gifts' debts come by the year in which they are due, loans' behind all of them. */
         private int turn(int debt) {
-            return isLoan(debt) ? Integer.MAX_VALUE : due[debt];
+            return isLoan(debt) ? BEHIND_ALL_YEARS : due[debt];
         }
 
         /** Debts between both are gone, others become the heir's: how many these are. */

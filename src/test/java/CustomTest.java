@@ -9,6 +9,7 @@ public final class CustomTest {
         faultsThatCannotStand(check);
         faultsOfNumbers(check);
         faultsOfClauses(check);
+        whatIsBehindTheText(check);
         whatATextTells(check);
         lastOfAKindCounts(check);
         arguments(check);
@@ -96,6 +97,10 @@ public final class CustomTest {
         bad(check, "lOan 1/2;", 1, 0);
         bad(check, "loa", 1, 0);
         bad(check, "loans 1/2;", 1, 0);
+        bad(check, "loanz 1/2;", 1, 0);
+        bad(check, "loana 1/2;", 1, 0);
+        bad(check, "loan{1/2;", 1, 4);
+        bad(check, "loan`1/2;", 1, 4);
         bad(check, "loam 1/2;", 1, 0);
         bad(check, "moan 1/2;", 1, 0);
         bad(check, "lzan 1/2;", 1, 0);
@@ -186,6 +191,35 @@ public final class CustomTest {
         bad(check, EIGHT + ";", 1, 72);
         bad(check, "loan 1/1;".repeat(7) + "loan 1/0;loan 1/1;", 2, 70);
         bad(check, " ".repeat(20) + EIGHT + "loan 1/1;", 3, 92);
+    }
+
+    /** Bytes of the tape behind the first n are no part of the text. */
+    private static void whatIsBehindTheText(Check check) {
+        cutAt(check, "loan 1/25;", 3, 0);
+        cutAt(check, "loan 1/25;", 4, 4);
+        cutAt(check, "loan   1/25;", 5, 5);
+        cutAt(check, "loan 10/25;", 6, 6);
+        cutAt(check, "loan 1/25;", 6, 6);
+        cutAt(check, "loan 1/25;", 7, 7);
+        cutAt(check, "loan 1/25;", 8, 8);
+        cutAt(check, "loan 1/25;", 9, 9);
+        cutAt(check, "return 1/2 within 9;", 16, 11);
+        cutAt(check, "return 1/2 within 9;", 17, 17);
+        FeastLedger x = Check.ledger(10, 0);
+        Check.feed(x, "witness 1;witness 9;");
+        check.same("custom(10, 0)", 0, x.custom(10, 0));
+        check.same("feast", 1, x.feast(0, 0, 1, 2));
+        Check.feed(x, "witness 2;x");
+        check.same("custom(10, 0)", 1, x.custom(10, 0));
+        Check.feed(x, "  x");
+        check.same("custom(2, 0)", 2, x.custom(2, 0));
+    }
+
+    private static void cutAt(Check check, String text, int n, int place) {
+        FeastLedger x = new FeastLedger();
+        Check.feed(x, text);
+        check.same("custom '" + text + "' cut at " + n, -9, x.custom(n, 0));
+        check.same("fault '" + text + "' cut at " + n, place, x.fault());
     }
 
     /** Gives, lends and feasts, so that each number of the text is seen. */

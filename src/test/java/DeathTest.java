@@ -4,6 +4,7 @@ public final class DeathTest {
         Check check = new Check();
         allPasses(check);
         answeredDebtsStay(check);
+        aSingleOneIsLeft(check);
         coppers(check);
         heirOfAnHeir(check);
         exceptions(check);
@@ -64,6 +65,19 @@ public final class DeathTest {
         check.same("about(2, 0)", 300, y.about(2, 0));
     }
 
+    private static void aSingleOneIsLeft(Check check) {
+        FeastLedger x = Check.ledger(100, 100, 100);
+        x.lend(0, 1, 1);
+        x.lend(1, 0, 1);
+        x.lend(1, 2, 1);
+        x.lend(2, 1, 1);
+        check.same("died(1, 2)", 2, x.died(1, 2));
+        check.debt(x, 0, 2, 0, 1, 1, -1);
+        check.debt(x, 1, 0, 2, 1, 1, -1);
+        check.same("debt(2, 2)", 0, x.debt(2, 2));
+        check.same("debt(3, 2)", 0, x.debt(3, 2));
+    }
+
     private static void coppers(Check check) {
         FeastLedger x = Check.ledger(0, 0, 0);
         x.copper(0, 10);
@@ -78,6 +92,12 @@ public final class DeathTest {
             check.same("worth of " + i, worths[i], x.copperTold(i, 1));
         }
         check.same("the heir passes it", 0, x.pass(1, 2));
+        // the document has all coppers pass, so one that is gone has the heir as its owner too
+        x.copper(2, 1);
+        x.breaks(4);
+        x.died(2, 0);
+        check.same("owner of a gone one", 0, x.copperTold(4, 0));
+        check.same("worth of a gone one", 0, x.copperTold(4, 1));
         check.same("fame(0)", 20, x.fame(0));
         check.same("fame(1)", 0, x.fame(1));
     }

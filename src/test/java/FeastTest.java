@@ -34,7 +34,7 @@ public final class FeastTest {
     private static void guestsInOrder(Check check) {
         FeastLedger x = Check.ledger(0, 0, 0, 0, 0, 1_000_000, 0, 0, 0, 0, 0, 0);
         Check.tell(x, "return 1/1 within 3;", 0);
-        check.same("feast", 1_000_000, x.feast(5, 0xFDF & 0x7DF, 100_000, 0x800));
+        check.same("feast", 1_000_000, x.feast(5, 0x7DF, 100_000, 0x800));
         check.same("count(2)", 10, x.count(2));
         int debt = 0;
         for (int guest = 0; guest < 11; guest++) {
@@ -72,11 +72,14 @@ public final class FeastTest {
 
     private static void nobodyComes(Check check) {
         FeastLedger x = Check.ledger(0, 10);
+        check.same("a feast without any custom", 2, x.feast(1, 1, 2, 0));
+        check.same("a witness without any custom", 0, x.feast(1, 0, 1, 1));
+        check.same("give back", 0, x.give(0, 1, 2));
         Check.tell(x, "return 1/1 within 3;witness 5;", 0);
         check.same("feast", 0, x.feast(0, 0, 100_000, 0));
         check.same("feast", 0, x.feast(1, 0, 1, 0));
         check.same("count(2)", 0, x.count(2));
-        check.same("fame(1)", 0, x.fame(1));
+        check.same("fame(1)", 2, x.fame(1));
     }
 
     private static void fewer(Check check) {
@@ -156,5 +159,8 @@ public final class FeastTest {
         check.state("a dead guest, too few blankets", () -> x.feast(0, 2, 100_000, 0));
         check.unchanged("feast", before, x);
         check.same("those who live", 2, x.feast(0, 4 + 8, 1, 0));
+        x.died(0, 2);
+        check.state("a dead guest 0", () -> x.feast(3, 1, 1, 0));
+        check.state("a dead witness 0", () -> x.feast(3, 4, 1, 1));
     }
 }

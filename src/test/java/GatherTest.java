@@ -21,8 +21,11 @@ public final class GatherTest {
 
     private void told(FeastLedger x, int chief, int year, long gather, int hold) {
         String of = "(" + chief + ", " + year + ")";
+        // in this order, so that neither could lean on what the other one worked out
+        check.same("hold" + of, hold, x.hold(chief, year));
         check.same("gather" + of, gather, x.gather(chief, year));
         check.same("hold" + of, hold, x.hold(chief, year));
+        check.same("gather" + of, gather, x.gather(chief, year));
     }
 
     private void alone() {
@@ -91,19 +94,18 @@ public final class GatherTest {
 
     /** The first path found is the wrong one and must be taken back in part. */
     private void backAlongAPath() {
-        FeastLedger x = Check.ledger(6, 6, 6, 6, 6, 6);
-        // 1 and 2 owe 0; 3 owes 1 and 2; 4 owes 1 alone; 5 owes 3
+        FeastLedger x = Check.ledger(6, 3, 0, 0, 0, 0);
+        // 3 can go through 1 or 2, but 4 through 1 alone
         x.lend(0, 1, 3);
         x.lend(0, 2, 3);
         x.lend(1, 3, 3);
         x.lend(2, 3, 3);
         x.lend(1, 4, 3);
-        x.lend(3, 5, 6);
-        x.give(1, 5, 3);
-        x.give(2, 5, 6);
+        x.give(3, 5, 3);
         told(x, 0, 0, 6, 1);
         told(x, 1, 0, 6, 2);
-        told(x, 5, 0, 21, 32);
+        told(x, 2, 0, 3, 4);
+        told(x, 5, 0, 3, 32);
     }
 
     private void exceptions() {

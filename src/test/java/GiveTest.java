@@ -10,6 +10,7 @@ public final class GiveTest {
         mostOwed(check);
         customOfTheYear(check);
         oneDebtTooMany(check);
+        moreOwedThanAnInt(check);
         fewerComesFirst(check);
         exceptions(check);
         check.end();
@@ -170,6 +171,20 @@ public final class GiveTest {
         check.same("fewer is told first", -1, x.give(2, 0, 100));
         x.custom(0, 0);
         check.same("without return no debt", 0, x.give(2, 0, 1));
+    }
+
+    /** Three debts of 1,000,000,000 are more than what is given, however full the ledger is. */
+    private static void moreOwedThanAnInt(Check check) {
+        FeastLedger x = Check.ledger(1_000_000, 1_000_000, 1_000_000, 0);
+        x.give(1, 0, 1_000_000);
+        x.give(2, 0, 1_000_000);
+        Check.tell(x, "return 1000/1 within 1;", 0);
+        for (int i = 0; i < 3; i++) {
+            check.same("give(0, 1, 999000)", 0, x.give(0, 1, 999_000));
+        }
+        Check.fillDebts(x, 400);
+        check.same("give(1, 0, 2000000)", 2_000_000, x.give(1, 0, 2_000_000));
+        check.same("give(1, 3, 1)", -2, x.give(1, 3, 1));
     }
 
     private static void fewerComesFirst(Check check) {

@@ -1,0 +1,96 @@
+import java.lang.reflect.InvocationTargetException;
+import java.lang.reflect.Method;
+import java.lang.reflect.Modifier;
+import java.util.Arrays;
+import java.util.Comparator;
+import java.util.List;
+
+/**
+ * Any calls with any arguments: only what the face names is thrown, what throws changes nothing, and
+ * the same calls on another object answer the same.
+ */
+public final class AnyCallTest {
+    private static final int LEDGERS = 300;
+    private static final int CALLS = 512;
+    private static final int[] EDGES = {
+        Integer.MIN_VALUE, -1, 0, 1, 2, 3, 4, 5, 6, 7, 11, 12, 13, 19, 20, 29, 30, 31, 40, 99, 100, 101,
+        399, 400, 1000, 1001, 4095, 4096, 100_000, 100_001, 1_000_000, 1_000_001, Integer.MAX_VALUE};
+    private static final String[] TEXTS = {
+        "return 3/2 within 2;", "loan 1/10;witness 4;", "return 1000/1 within 0;loan 1000/1;",
+        "loan 1/2;;", "witness 1001;", ""};
+
+    private final Check check = new Check();
+    private final List<Method> face = face();
+    private long seed = 16_112_026L;
+
+    public static void main(String[] args) throws IllegalAccessException {
+        AnyCallTest test = new AnyCallTest();
+        for (int i = 0; i < LEDGERS; i++) {
+            test.run();
+        }
+        test.check.end();
+    }
+
+    private static List<Method> face() {
+        return Arrays.stream(FeastLedger.class.getDeclaredMethods())
+                .filter(method -> Modifier.isPublic(method.getModifiers()))
+                .sorted(Comparator.comparing(Method::getName))
+                .toList();
+    }
+
+    private int some(int below) {
+        seed = seed * 6_364_136_223_846_793_005L + 1_442_695_040_888_963_407L;
+        return (int) ((seed >>> 33) % below);
+    }
+
+    private void run() throws IllegalAccessException {
+        FeastLedger one = new FeastLedger();
+        FeastLedger other = new FeastLedger();
+        // some ledgers get few wild arguments, so that much comes to stand in them
+        int tame = 1 + some(20);
+        for (int i = 0; i < CALLS; i++) {
+            if (some(30) == 0) {
+                String text = TEXTS[some(TEXTS.length)];
+                Check.feed(one, text);
+                Check.feed(other, text);
+            }
+            Method method = face.get(some(face.size()));
+            Object[] args = arguments(method, tame);
+            String before = i % 8 == 0 ? Check.state(one) : null;
+            Object answer = answer(one, method, args);
+            if (!answer.equals(answer(other, method, args))) {
+                check.say(told(method, args) + " answered otherwise on another object");
+            }
+            if (before != null && answer instanceof Class) {
+                check.unchanged(told(method, args), before, one);
+            }
+        }
+    }
+
+    private Object[] arguments(Method method, int tame) {
+        Object[] args = new Object[method.getParameterCount()];
+        for (int i = 0; i < args.length; i++) {
+            args[i] = some(tame) == 0 ? EDGES[some(EDGES.length)] : some(13);
+        }
+        if (method.getName().equals("chief") && some(2) == 0) {
+            args[0] = some(2000);
+        }
+        return args;
+    }
+
+    private Object answer(FeastLedger x, Method method, Object[] args) throws IllegalAccessException {
+        try {
+            return method.invoke(x, args);
+        } catch (InvocationTargetException e) {
+            Class<?> thrown = e.getCause().getClass();
+            if (!Arrays.asList(method.getExceptionTypes()).contains(thrown)) {
+                check.say(told(method, args) + " threw " + e.getCause());
+            }
+            return thrown;
+        }
+    }
+
+    private static String told(Method method, Object[] args) {
+        return method.getName() + Arrays.toString(args);
+    }
+}
