@@ -855,7 +855,7 @@ public final class FeastLedger {
             }
             queue[0] = chief;
             int queued = 1;
-            for (int i = 0; i < queued; i++) {
+            for (int i = 0; i < MOST_CHIEFS && i < queued; i++) {
                 int here = queue[i];
                 if (stock[here] > 0) {
                     return here;

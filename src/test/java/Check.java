@@ -1,15 +1,36 @@
-import java.nio.charset.StandardCharsets;
-import java.util.Arrays;
+import java.util.List;
 
-/** Counts and prints the answers that are not as due, and tells customs by their text. */
+/**
+ * Counts and prints the answers that are not as due, each behind the document's sentence that it is
+ * to keep.
+ */
 final class Check {
+    /** A call whose answer is looked at. */
     interface Call {
         long answer();
     }
 
-    private static final int FED_AT_ONCE = 20;
+    /** Makes a ledger, the same one each time. */
+    interface Past {
+        Ledger make();
+    }
+
+    /** A call on a ledger. */
+    interface Act {
+        long on(Ledger x);
+    }
+
+    private static final Class<? extends RuntimeException> INDEX = IndexOutOfBoundsException.class;
+    private static final Class<? extends RuntimeException> ARGUMENT = IllegalArgumentException.class;
+    private static final Class<? extends RuntimeException> STATE = IllegalStateException.class;
 
     private int wrong = 0;
+    private String sentence = "";
+
+    /** The sentence of the document that the calls behind this one are about. */
+    void sentence(String words) {
+        sentence = words;
+    }
 
     void same(String call, long due, long got) {
         if (got != due) {
@@ -18,15 +39,15 @@ final class Check {
     }
 
     void index(String call, Call made) {
-        thrown(call, IndexOutOfBoundsException.class, made);
+        thrown(call, INDEX, made);
     }
 
     void argument(String call, Call made) {
-        thrown(call, IllegalArgumentException.class, made);
+        thrown(call, ARGUMENT, made);
     }
 
     void state(String call, Call made) {
-        thrown(call, IllegalStateException.class, made);
+        thrown(call, STATE, made);
     }
 
     private void thrown(String call, Class<? extends RuntimeException> due, Call made) {
@@ -40,92 +61,85 @@ final class Check {
         }
     }
 
+    /** A call that answers so, and changes nothing. */
+    void refused(String call, long due, Past past, Act act) {
+        same(call, due, act.on(past.make()));
+        unchanged(call, past, act);
+    }
+
+    void refusedByIndex(String call, Past past, Act act) {
+        Ledger x = past.make();
+        index(call, () -> act.on(x));
+        unchanged(call, past, act);
+    }
+
+    void refusedByArgument(String call, Past past, Act act) {
+        Ledger x = past.make();
+        argument(call, () -> act.on(x));
+        unchanged(call, past, act);
+    }
+
+    void refusedByState(String call, Past past, Act act) {
+        Ledger x = past.make();
+        state(call, () -> act.on(x));
+        unchanged(call, past, act);
+    }
+
+    void unchanged(String call, Past past, Act act) {
+        List<String> before = Look.at(past);
+        List<String> after = Look.at(() -> behind(past, act));
+        if (before.size() != after.size()) {
+            say(call + " changed how much there is");
+            return;
+        }
+        for (int i = 0; i < before.size(); i++) {
+            if (!before.get(i).equals(after.get(i))) {
+                say(call + " changed " + before.get(i) + " to " + after.get(i));
+            }
+        }
+    }
+
+    private static Ledger behind(Past past, Act act) {
+        Ledger x = past.make();
+        try {
+            act.on(x);
+        } catch (RuntimeException e) {
+            // what it throws is looked at elsewhere
+        }
+        return x;
+    }
+
+    /** All that debt() tells of one: who owes, to whom, how much is left, its kind, when it is due. */
+    void debt(Ledger x, int debt, int... due) {
+        for (int what = 0; what < due.length; what++) {
+            same("debt(" + debt + ", " + what + ")", due[what], x.debt(debt, what));
+        }
+    }
+
+    /** How much is left of each debt, from the first on; there are no more of them. */
+    void lefts(Ledger x, int... due) {
+        same("count(2)", due.length, x.count(2));
+        for (int i = 0; i < due.length; i++) {
+            same("debt(" + i + ", 2)", due[i], x.debt(i, 2));
+        }
+    }
+
+    /** The blankets of each chief, from the first on. */
+    void blankets(Ledger x, int... due) {
+        for (int i = 0; i < due.length; i++) {
+            same("about(" + i + ", 0)", due[i], x.about(i, 0));
+        }
+    }
+
     void say(String text) {
         wrong++;
-        System.out.println(text);
+        System.out.println(sentence + " | " + text);
     }
 
     void end() {
         if (wrong != 0) {
             System.out.println(wrong + " wrong");
             System.exit(1);
-        }
-    }
-
-    /** Feeds the text, with zeros behind it up to a multiple of twenty. */
-    static void feed(FeastLedger ledger, String text) {
-        byte[] bytes = text.getBytes(StandardCharsets.ISO_8859_1);
-        for (int at = 0; at < bytes.length; at += FED_AT_ONCE) {
-            byte[] part = Arrays.copyOfRange(bytes, at, at + FED_AT_ONCE);
-            ledger.feed(word(part, 0), word(part, 4), word(part, 8), word(part, 12), word(part, 16));
-        }
-    }
-
-    static int tell(FeastLedger ledger, String text, int year) {
-        feed(ledger, text);
-        return ledger.custom(text.length(), year);
-    }
-
-    private static int word(byte[] bytes, int at) {
-        int word = 0;
-        for (int i = 0; i < 4; i++) {
-            word = word << 8 | bytes[at + i] & 0xFF;
-        }
-        return word;
-    }
-
-    static FeastLedger ledger(int... blankets) {
-        FeastLedger made = new FeastLedger();
-        for (int some : blankets) {
-            made.chief(some);
-        }
-        return made;
-    }
-
-    /** Of all: chiefs, customs, debts and coppers, to see whether a call changed anything. */
-    static String state(FeastLedger x) {
-        StringBuilder told = new StringBuilder();
-        for (int i = 0; i < 7; i++) {
-            told.append(x.count(i)).append(' ');
-        }
-        told.append('f').append(x.fault());
-        for (int i = 0; i < x.count(0); i++) {
-            told.append(" chief ").append(x.about(i, 0)).append(' ').append(x.about(i, 1));
-            told.append(' ').append(x.about(i, 2)).append(' ').append(x.fame(i));
-        }
-        for (int i = 0; i < x.count(2); i++) {
-            told.append(" debt");
-            for (int what = 0; what < 5; what++) {
-                told.append(' ').append(x.debt(i, what));
-            }
-        }
-        for (int i = 0; i < x.count(4); i++) {
-            told.append(" copper ").append(x.copperTold(i, 0)).append(' ').append(x.copperTold(i, 1));
-        }
-        return told.toString();
-    }
-
-    void unchanged(String call, String before, FeastLedger x) {
-        String after = state(x);
-        if (!after.equals(before)) {
-            say(call + " changed " + before + " to " + after);
-        }
-    }
-
-    /** Looks at all that debt() tells of one. */
-    void debt(FeastLedger x, int debt, int... due) {
-        for (int what = 0; what < due.length; what++) {
-            same("debt(" + debt + ", " + what + ")", due[what], x.debt(debt, what));
-        }
-    }
-
-    /** Makes loans of 1 by turns between chiefs 0 and 1, until there are so many debts. */
-    static void fillDebts(FeastLedger x, int debts) {
-        while (x.count(2) < debts) {
-            int from = x.count(2) % 2;
-            if (x.lend(from, 1 - from, 1) < 0) {
-                throw new IllegalStateException("the test's chiefs have too few blankets");
-            }
         }
     }
 }

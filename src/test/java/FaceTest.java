@@ -43,6 +43,7 @@ public final class FaceTest {
 
     public static void main(String[] args) {
         Check check = new Check();
+        check.sentence("The public face");
         Class<FeastLedger> face = FeastLedger.class;
         check.same("public and final", Modifier.PUBLIC | Modifier.FINAL, face.getModifiers());
         check.same("NONE", -1, FeastLedger.NONE);

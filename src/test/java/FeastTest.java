@@ -1,166 +1,245 @@
 /** Promise 13 feast. */
 public final class FeastTest {
+    private static final Check CHECK = new Check();
+
     public static void main(String[] args) {
-        Check check = new Check();
-        guestsAndWitnesses(check);
-        guestsInOrder(check);
-        answersDebts(check);
-        nobodyComes(check);
-        fewer(check);
-        oneDebtTooMany(check);
-        wrongBits(check);
-        wrongSize(check);
-        theDead(check);
-        check.end();
+        guestsAndWitnesses();
+        guestsInOrder();
+        answersDebts();
+        nobodyComes();
+        itHasFewer();
+        oneDebtTooMany();
+        theFirstOfThese();
+        noSuchHost();
+        bitsThatTellNoChief();
+        theHost();
+        oneThatIsBoth();
+        sizeOutOfRange();
+        oneDied();
+        CHECK.end();
     }
 
-    private static void guestsAndWitnesses(Check check) {
-        FeastLedger x = Check.ledger(100, 0, 0, 0, 0);
-        Check.tell(x, "return 2/1 within 3;witness 4;", 0);
+    private static Ledger four() {
+        Ledger x = Ledger.of(24, 0, 0, 0);
+        Tape.tell(x, "return 1/1 within 3;witness 5;", 0);
+        return x;
+    }
+
+    private static Ledger twelve() {
+        return Ledger.of(9, 9, 9, 9, 9, 9, 9, 9, 9, 9, 9, 9);
+    }
+
+    private static Ledger rich() {
+        return Ledger.of(1_000_000, 100, 100);
+    }
+
+    private static Ledger withADead() {
+        Ledger x = Ledger.of(100, 100, 100, 100);
+        x.died(1, 0);
+        return x;
+    }
+
+    /** 398 debts: chief 1 owes 199 loans of 1 to chief 0, and 0 as many to 1. */
+    private static Ledger nearlyFull() {
+        Ledger x = Ledger.of(1000, 1000, 0, 0);
+        Tape.tell(x, "return 1/1 within 3;witness 5;", 0);
+        return x.fillDebts(398);
+    }
+
+    private static Ledger full() {
+        Ledger x = Ledger.of(1000, 1000, 0, 0);
+        Tape.tell(x, "return 1/1 within 3;witness 5;", 0);
+        return x.fillDebts(400);
+    }
+
+    private static void guestsAndWitnesses() {
+        CHECK.sentence("A FEAST: each of some guests is GIVEN so many BLANKETS; then each of some"
+                + " witnesses gets what the CUSTOM in force tells, which is not GIVEN");
+        Ledger x = Ledger.of(100, 0, 0, 0, 0);
+        Tape.tell(x, "return 2/1 within 3;witness 4;", 0);
+        Tape.tell(x, "return 2/1 within 3;witness 9;", 2);
         x.wait(1);
-        check.same("feast", 28, x.feast(0, 2 + 8, 10, 4 + 16));
-        int[] due = {72, 10, 4, 10, 4};
-        for (int i = 0; i < due.length; i++) {
-            check.same("about(" + i + ", 0)", due[i], x.about(i, 0));
-        }
-        check.same("count(2)", 2, x.count(2));
-        check.debt(x, 0, 1, 0, 20, 0, 4);
-        check.debt(x, 1, 3, 0, 20, 0, 4);
-        check.same("fame(0)", 20, x.fame(0));
-        Check.tell(x, "witness 1000;", 0);
-        check.same("a witness that is to get 1000", -1, x.feast(0, 0, 1, 2));
+        CHECK.same("feast", 28, x.feast(0, 2 + 8, 10, 4 + 16));
+        CHECK.blankets(x, 72, 10, 4, 10, 4);
+        CHECK.same("count(2)", 2, x.count(2));
+        CHECK.debt(x, 0, 1, 0, 20, 0, 4);
+        CHECK.debt(x, 1, 3, 0, 20, 0, 4);
+        CHECK.same("fame(0)", 20, x.fame(0));
+        x.wait(1);
+        CHECK.same("feast by the next custom", 18, x.feast(0, 0, 10, 4 + 16));
+        CHECK.blankets(x, 54, 10, 13, 10, 13);
     }
 
-    private static void guestsInOrder(Check check) {
-        FeastLedger x = Check.ledger(0, 0, 0, 0, 0, 1_000_000, 0, 0, 0, 0, 0, 0);
-        Check.tell(x, "return 1/1 within 3;", 0);
-        check.same("feast", 1_000_000, x.feast(5, 0x7DF, 100_000, 0x800));
-        check.same("count(2)", 10, x.count(2));
+    private static void guestsInOrder() {
+        CHECK.sentence("A FEAST: each of some guests, in order; as many as there may be");
+        Ledger x = Ledger.of(0, 0, 0, 0, 0, 1_000_000, 0, 0, 0, 0, 0, 0);
+        Tape.tell(x, "return 1/1 within 3;", 0);
+        CHECK.same("ten guests", 1_000_000, x.feast(5, 0x7DF, 100_000, 0x800));
+        CHECK.same("count(2)", 10, x.count(2));
         int debt = 0;
         for (int guest = 0; guest < 11; guest++) {
             if (guest != 5) {
-                check.debt(x, debt, guest, 5, 100_000, 0, 3);
+                CHECK.debt(x, debt, guest, 5, 100_000, 0, 3);
                 debt++;
             }
         }
-        check.same("about(5, 0)", 0, x.about(5, 0));
-        check.same("fame(5)", 1_000_000, x.fame(5));
-        FeastLedger y = Check.ledger(0, 0, 0, 0, 0, 0, 0, 0, 0, 0, 0, 22_000);
-        Check.tell(y, "witness 1000;", 0);
-        check.same("eleven witnesses", 11_000, y.feast(11, 0, 100_000, 0x7FF));
-        check.same("eleven guests", 11_000, y.feast(11, 0x7FF, 1000, 0));
-        check.same("about(0, 0)", 2000, y.about(0, 0));
-        check.same("fame(11)", 11_000, y.fame(11));
+        CHECK.blankets(x, 100_000, 100_000, 100_000, 100_000, 100_000, 0);
+        CHECK.same("fame(5)", 1_000_000, x.fame(5));
+        Ledger y = Ledger.of(0, 0, 0, 0, 0, 0, 0, 0, 0, 0, 0, 22_000);
+        Tape.tell(y, "witness 1000;", 0);
+        CHECK.same("eleven witnesses", 11_000, y.feast(11, 0, 100_000, 0x7FF));
+        CHECK.same("eleven guests", 11_000, y.feast(11, 0x7FF, 1000, 0));
+        CHECK.blankets(y, 2000, 2000, 2000, 2000, 2000, 2000, 2000, 2000, 2000, 2000, 2000, 0);
+        CHECK.same("fame(11)", 11_000, y.fame(11));
+        Ledger z = Ledger.of(1_000_000, 1_000_000, 0, 0, 0, 0, 0, 0, 0, 0, 0, 0);
+        z.give(1, 0, 1_000_000);
+        CHECK.same("the greatest feast", 1_100_000, z.feast(0, 0xFFE, 100_000, 0));
+        CHECK.same("about(0, 0)", 900_000, z.about(0, 0));
     }
 
-    private static void answersDebts(Check check) {
-        FeastLedger x = Check.ledger(100, 100, 100, 100);
-        Check.tell(x, "return 1/1 within 3;witness 5;", 0);
+    private static void answersDebts() {
+        CHECK.sentence("A FEAST: each of some guests is GIVEN, so DEBTS are answered first");
+        Ledger x = Ledger.of(100, 100, 100, 100);
+        Tape.tell(x, "return 1/1 within 3;witness 5;", 0);
         x.lend(1, 0, 4);
         x.lend(2, 0, 10);
         x.lend(3, 0, 30);
-        check.same("feast", 25, x.feast(0, 2 + 4, 10, 8));
-        check.debt(x, 0, 0, 1, 0, 1, -1);
-        check.debt(x, 1, 0, 2, 0, 1, -1);
-        // a witness is not given to
-        check.debt(x, 2, 0, 3, 30, 1, -1);
-        check.debt(x, 3, 1, 0, 6, 0, 3);
-        check.same("count(2)", 4, x.count(2));
-        check.same("fame(0)", 20, x.fame(0));
-        check.same("about(3, 0)", 75, x.about(3, 0));
+        CHECK.same("feast", 25, x.feast(0, 2 + 4, 10, 8));
+        CHECK.lefts(x, 0, 0, 30, 6);
+        CHECK.debt(x, 3, 1, 0, 6, 0, 3);
+        CHECK.same("fame(0)", 20, x.fame(0));
+        CHECK.same("about(3, 0)", 75, x.about(3, 0));
     }
 
-    private static void nobodyComes(Check check) {
-        FeastLedger x = Check.ledger(0, 10);
-        check.same("a feast without any custom", 2, x.feast(1, 1, 2, 0));
-        check.same("a witness without any custom", 0, x.feast(1, 0, 1, 1));
-        check.same("give back", 0, x.give(0, 1, 2));
-        Check.tell(x, "return 1/1 within 3;witness 5;", 0);
-        check.same("feast", 0, x.feast(0, 0, 100_000, 0));
-        check.same("feast", 0, x.feast(1, 0, 1, 0));
-        check.same("count(2)", 0, x.count(2));
-        check.same("fame(1)", 2, x.fame(1));
+    private static void nobodyComes() {
+        CHECK.sentence("Promise 13: how many BLANKETS went, with no guests or no witnesses");
+        CHECK.refused("neither", 0, FeastTest::four, x -> x.feast(0, 0, 100_000, 0));
+        CHECK.refused("neither, of none", 0, FeastTest::four, x -> x.feast(1, 0, 1, 0));
+        CHECK.same("no witnesses", 4, four().feast(0, 2 + 4, 2, 0));
+        CHECK.same("no guests", 10, four().feast(0, 0, 2, 2 + 4));
+        Ledger x = Ledger.of(0, 10);
+        CHECK.same("without any custom", 2, x.feast(1, 1, 2, 0));
+        CHECK.same("a witness without any custom", 0, x.feast(1, 0, 1, 1));
+        CHECK.blankets(x, 2, 8);
     }
 
-    private static void fewer(Check check) {
-        FeastLedger x = Check.ledger(24, 0, 0, 0);
-        Check.tell(x, "return 1/1 within 3;witness 5;", 0);
-        String before = Check.state(x);
-        check.same("guests", -1, x.feast(0, 2 + 4, 13, 0));
-        check.same("guests and witnesses", -1, x.feast(0, 2 + 4, 10, 8));
-        check.unchanged("feast", before, x);
-        check.same("just enough", 23, x.feast(0, 2 + 4, 9, 8));
-        check.same("witnesses alone", -1, x.feast(0, 0, 1, 8));
-        x.custom(0, 0);
-        check.same("what is left", 1, x.feast(0, 2, 1, 8));
+    private static void itHasFewer() {
+        CHECK.sentence("Promise 13: -1 as give(), for all of it: it has fewer; nothing changes");
+        CHECK.refused("guests", -1, FeastTest::four, x -> x.feast(0, 2 + 4, 13, 0));
+        CHECK.refused("one guest", -1, FeastTest::four, x -> x.feast(0, 2, 25, 0));
+        CHECK.refused("guests and witnesses", -1, FeastTest::four, x -> x.feast(0, 2 + 4, 10, 8));
+        CHECK.refused("a witness, of none", -1, FeastTest::four, x -> x.feast(1, 0, 1, 4));
+        CHECK.same("just enough for a guest", 24, four().feast(0, 2, 24, 0));
+        CHECK.same("just enough for guests", 24, four().feast(0, 2 + 4, 12, 0));
+        Ledger x = four();
+        CHECK.same("just enough for all", 24, x.feast(0, 2, 14, 4 + 8));
+        CHECK.blankets(x, 0, 14, 5, 5);
+        CHECK.same("of none", -1, x.feast(0, 2, 1, 0));
+        CHECK.same("one too few for all", -1, four().feast(0, 2, 15, 4 + 8));
     }
 
-    private static void oneDebtTooMany(Check check) {
-        FeastLedger x = Check.ledger(1000, 1000, 0, 0);
-        Check.tell(x, "return 1/1 within 3;witness 5;", 0);
-        Check.fillDebts(x, 398);
-        String before = Check.state(x);
-        // 1 owes 199 to 0, and 0 as much to 1
-        check.same("three more", -2, x.feast(0, 2 + 4 + 8, 200, 0));
-        check.unchanged("feast", before, x);
-        check.same("fewer is told first", -1, x.feast(0, 2 + 4 + 8, 500, 0));
-        check.same("two more", 597, x.feast(0, 2 + 4 + 8, 199, 0));
-        check.same("count(2)", 400, x.count(2));
-        before = Check.state(x);
-        check.same("one more", -2, x.feast(0, 4, 1, 0));
-        check.unchanged("feast", before, x);
-        check.same("witnesses make none", 10, x.feast(0, 0, 1, 4 + 8));
-        check.same("answers make none", 199, x.feast(1, 1, 199, 0));
-        check.same("one more", -2, x.feast(1, 1, 1, 0));
+    private static void oneDebtTooMany() {
+        CHECK.sentence("Promise 13: -2 as give(), for all of it: a DEBT would be one too many; nothing"
+                + " changes");
+        CHECK.refused("a 399th to 401st", -2, FeastTest::nearlyFull,
+                x -> x.feast(0, 2 + 4 + 8, 200, 0));
+        Ledger x = nearlyFull();
+        CHECK.same("a 399th and 400th", 597, x.feast(0, 2 + 4 + 8, 199, 0));
+        CHECK.same("count(2)", 400, x.count(2));
+        CHECK.debt(x, 398, 2, 0, 199, 0, 3);
+        CHECK.debt(x, 399, 3, 0, 199, 0, 3);
+        CHECK.refused("a 401st", -2, FeastTest::full, y -> y.feast(0, 4, 1, 0));
+        CHECK.refused("a 401st behind an answer", -2, FeastTest::full, y -> y.feast(0, 2 + 4, 1, 0));
+        CHECK.same("witnesses make none", 10, full().feast(0, 0, 1, 4 + 8));
+        Ledger z = full();
+        CHECK.same("answers make none", 200, z.feast(1, 1, 200, 0));
+        CHECK.same("nothing is owed any more", -2, z.feast(1, 1, 1, 0));
+        z.custom(0, 0);
+        CHECK.same("without return", 3, z.feast(1, 1 + 4 + 8, 1, 0));
     }
 
-    private static void wrongBits(Check check) {
-        FeastLedger x = Check.ledger(100, 100, 100);
-        String before = Check.state(x);
-        check.index("feast(-1, ..)", () -> x.feast(-1, 2, 1, 0));
-        check.index("feast(3, ..)", () -> x.feast(3, 2, 1, 0));
-        check.index("feast(3, 8, 0, 8)", () -> x.feast(3, 8, 0, 8));
-        check.argument("the host is a guest", () -> x.feast(1, 2, 1, 0));
-        check.argument("the host is a witness", () -> x.feast(1, 1, 1, 2));
-        check.argument("one is both", () -> x.feast(0, 2 + 4, 1, 4));
-        check.argument("a guest that is none", () -> x.feast(0, 8, 1, 0));
-        check.argument("a witness that is none", () -> x.feast(0, 2, 1, 8));
-        check.argument("a guest of the highest bit", () -> x.feast(0, Integer.MIN_VALUE, 1, 0));
-        check.argument("a witness of the highest bit", () -> x.feast(0, 2, 1, Integer.MIN_VALUE));
-        check.argument("all bits", () -> x.feast(0, -2, 1, 0));
-        check.unchanged("feast", before, x);
-        FeastLedger full = Check.ledger(9, 9, 9, 9, 9, 9, 9, 9, 9, 9, 9, 9);
-        check.argument("a 13th guest", () -> full.feast(0, 1 << 12, 1, 0));
-        check.argument("a 13th witness", () -> full.feast(0, 2, 1, 1 << 12));
-        check.same("the 12th", 1, full.feast(0, 1 << 11, 1, 0));
+    private static void theFirstOfThese() {
+        CHECK.sentence("Promise 13: as give(): the first of these; nothing changes");
+        CHECK.refused("fewer, and no room", -1, FeastTest::full, x -> x.feast(0, 4, 1001, 0));
+        CHECK.refused("just enough, and no room", -2, FeastTest::full, x -> x.feast(0, 4, 1000, 0));
     }
 
-    private static void wrongSize(Check check) {
-        FeastLedger x = Check.ledger(1_000_000, 100, 100);
-        check.argument("a size of 0", () -> x.feast(0, 2, 0, 0));
-        check.argument("a size of -1", () -> x.feast(0, 2, -1, 0));
-        check.argument("a size of 100001", () -> x.feast(0, 2, 100_001, 0));
-        check.argument("a size of 0 for nobody", () -> x.feast(0, 0, 0, 2));
-        check.same("a size of 100000", 100_000, x.feast(0, 2, 100_000, 0));
-        check.same("a size of 1", 1, x.feast(0, 2, 1, 0));
+    private static void noSuchHost() {
+        CHECK.sentence("Promise 13: IndexOutOfBoundsException: no such CHIEF");
+        CHECK.refusedByIndex("feast(-1, ..)", FeastTest::four, x -> x.feast(-1, 2, 1, 0));
+        CHECK.refusedByIndex("feast(4, ..)", FeastTest::four, x -> x.feast(4, 2, 1, 0));
+        CHECK.refusedByIndex("feast(4, 16, 0, 16)", FeastTest::four, x -> x.feast(4, 16, 0, 16));
+        CHECK.refusedByIndex("feast(12, ..)", FeastTest::twelve, x -> x.feast(12, 2, 1, 0));
+        CHECK.refusedByIndex("feast(32, ..)", FeastTest::four, x -> x.feast(32, 2, 1, 0));
+        CHECK.refusedByIndex("feast(MIN, ..)", FeastTest::four,
+                x -> x.feast(Integer.MIN_VALUE, 2, 1, 0));
+        CHECK.same("the last host", 1, twelve().feast(11, 1, 1, 0));
     }
 
-    private static void theDead(Check check) {
-        FeastLedger x = Check.ledger(100, 100, 100, 100);
-        x.died(1, 0);
-        String before = Check.state(x);
-        check.state("a dead host", () -> x.feast(1, 1, 1, 0));
-        check.state("a dead host of nobody", () -> x.feast(1, 0, 1, 0));
-        check.state("a dead guest", () -> x.feast(0, 2 + 4, 1, 0));
-        check.state("a dead witness", () -> x.feast(0, 4, 1, 2));
-        check.argument("a dead host as guest", () -> x.feast(1, 2, 1, 0));
-        check.argument("a dead one that is both", () -> x.feast(0, 2, 1, 2));
-        check.argument("a dead guest of 0", () -> x.feast(0, 2, 0, 0));
-        check.state("a dead guest, too few blankets", () -> x.feast(0, 2, 100_000, 0));
-        check.unchanged("feast", before, x);
-        check.same("those who live", 2, x.feast(0, 4 + 8, 1, 0));
+    private static void bitsThatTellNoChief() {
+        CHECK.sentence("Promise 13: IllegalArgumentException: bits that tell no CHIEF");
+        CHECK.refusedByArgument("a 5th guest", FeastTest::four, x -> x.feast(0, 16, 1, 0));
+        CHECK.refusedByArgument("a 5th witness", FeastTest::four, x -> x.feast(0, 2, 1, 16));
+        CHECK.refusedByArgument("a 5th guest too", FeastTest::four, x -> x.feast(0, 2 + 16, 1, 0));
+        CHECK.refusedByArgument("a 13th guest", FeastTest::twelve, x -> x.feast(0, 1 << 12, 1, 0));
+        CHECK.refusedByArgument("a 13th witness", FeastTest::twelve, x -> x.feast(0, 2, 1, 1 << 12));
+        CHECK.refusedByArgument("the highest bit, a guest", FeastTest::four,
+                x -> x.feast(0, Integer.MIN_VALUE, 1, 0));
+        CHECK.refusedByArgument("the highest bit, a witness", FeastTest::four,
+                x -> x.feast(0, 2, 1, Integer.MIN_VALUE));
+        CHECK.refusedByArgument("the bit below it", FeastTest::four, x -> x.feast(0, 1 << 30, 1, 0));
+        CHECK.refusedByArgument("all bits but the host's", FeastTest::four, x -> x.feast(0, -2, 1, 0));
+        CHECK.same("the 4th guest", 1, four().feast(0, 8, 1, 0));
+        CHECK.same("the 4th witness", 5, four().feast(0, 0, 1, 8));
+        CHECK.same("the 12th guest", 1, twelve().feast(0, 1 << 11, 1, 0));
+    }
+
+    private static void theHost() {
+        CHECK.sentence("Promise 13: IllegalArgumentException: or the host");
+        CHECK.refusedByArgument("as a guest", FeastTest::rich, x -> x.feast(1, 2, 1, 0));
+        CHECK.refusedByArgument("as one of them", FeastTest::rich, x -> x.feast(1, 1 + 2, 1, 4));
+        CHECK.refusedByArgument("as a witness", FeastTest::rich, x -> x.feast(1, 1, 1, 2));
+        CHECK.refusedByArgument("as a guest, the first", FeastTest::rich, x -> x.feast(0, 1, 1, 0));
+        CHECK.refusedByArgument("as a guest, the last", FeastTest::rich, x -> x.feast(2, 4, 1, 0));
+        CHECK.refusedByArgument("as a dead guest", FeastTest::withADead, x -> x.feast(1, 2, 1, 0));
+    }
+
+    private static void oneThatIsBoth() {
+        CHECK.sentence("Promise 13: IllegalArgumentException: or one that is both");
+        CHECK.refusedByArgument("one", FeastTest::rich, x -> x.feast(0, 2, 1, 2));
+        CHECK.refusedByArgument("one of two", FeastTest::rich, x -> x.feast(0, 2 + 4, 1, 4));
+        CHECK.refusedByArgument("a dead one", FeastTest::withADead, x -> x.feast(0, 2, 1, 2));
+        CHECK.same("each is one", 1, rich().feast(0, 2, 1, 4));
+    }
+
+    private static void sizeOutOfRange() {
+        CHECK.sentence("Promise 13: IllegalArgumentException: or size is not 1 to 100,000");
+        CHECK.refusedByArgument("0", FeastTest::rich, x -> x.feast(0, 2, 0, 0));
+        CHECK.refusedByArgument("-1", FeastTest::rich, x -> x.feast(0, 2, -1, 0));
+        CHECK.refusedByArgument("100001", FeastTest::rich, x -> x.feast(0, 2, 100_001, 0));
+        CHECK.refusedByArgument("MIN", FeastTest::rich, x -> x.feast(0, 2, Integer.MIN_VALUE, 0));
+        CHECK.refusedByArgument("MAX", FeastTest::rich, x -> x.feast(0, 2, Integer.MAX_VALUE, 0));
+        CHECK.refusedByArgument("0 for no guest", FeastTest::rich, x -> x.feast(0, 0, 0, 2));
+        CHECK.refusedByArgument("0 for a dead one", FeastTest::withADead, x -> x.feast(0, 2, 0, 0));
+        CHECK.same("1", 1, rich().feast(0, 2, 1, 0));
+        CHECK.same("100000", 100_000, rich().feast(0, 2, 100_000, 0));
+    }
+
+    private static void oneDied() {
+        CHECK.sentence("Promise 13: IllegalStateException: also one of all DIED");
+        CHECK.refusedByState("the host", FeastTest::withADead, x -> x.feast(1, 1, 1, 0));
+        CHECK.refusedByState("the host of nobody", FeastTest::withADead, x -> x.feast(1, 0, 1, 0));
+        CHECK.refusedByState("a guest", FeastTest::withADead, x -> x.feast(0, 2, 1, 0));
+        CHECK.refusedByState("one of two guests", FeastTest::withADead, x -> x.feast(0, 2 + 4, 1, 0));
+        CHECK.refusedByState("a witness", FeastTest::withADead, x -> x.feast(0, 4, 1, 2));
+        CHECK.refusedByState("a guest, and too few", FeastTest::withADead,
+                x -> x.feast(0, 2, 100_000, 0));
+        CHECK.same("all live", 2, withADead().feast(0, 4 + 8, 1, 0));
+        Ledger x = withADead();
         x.died(0, 2);
-        check.state("a dead guest 0", () -> x.feast(3, 1, 1, 0));
-        check.state("a dead witness 0", () -> x.feast(3, 4, 1, 1));
+        CHECK.state("the first chief, a guest", () -> x.feast(3, 1, 1, 0));
+        CHECK.state("the first chief, a witness", () -> x.feast(3, 4, 1, 1));
+        x.died(3, 2);
+        CHECK.state("the last chief, a guest", () -> x.feast(2, 8, 1, 0));
     }
 }
