@@ -1,4 +1,6 @@
+import java.util.LinkedHashSet;
 import java.util.List;
+import java.util.Set;
 
 /**
  * Counts and prints the answers that are not as due, each behind the document's sentence that it is
@@ -96,6 +98,16 @@ final class Check {
             if (!before.get(i).equals(after.get(i))) {
                 say(call + " changed " + before.get(i) + " to " + after.get(i));
             }
+        }
+    }
+
+    /** A call that answers so; behind it the ledger tells these things anew, and all else as before. */
+    void changes(String call, long due, Past past, Act act, String... changed) {
+        same(call, due, act.on(past.make()));
+        Set<String> got = new LinkedHashSet<>(Look.at(() -> behind(past, act)));
+        got.removeAll(Look.at(past));
+        if (!got.equals(Set.of(changed))) {
+            say(call + " changed " + got + ", due is " + List.of(changed));
         }
     }
 

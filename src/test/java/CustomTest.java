@@ -21,8 +21,10 @@ public final class CustomTest {
         CHECK.end();
     }
 
+    /** The latest custom() had a fault at 4. */
     private static Ledger fed() {
         Ledger x = new Ledger();
+        Tape.tell(x, "loan", 0);
         Tape.feed(x, "loan 1/2;           ");
         return x;
     }

@@ -125,6 +125,10 @@ public final class DeathTest {
         CHECK.same("died(1, 2)", 1, x.died(1, 2));
         CHECK.lefts(x, 0, 0, 0, 1, 1);
         CHECK.same("count(3)", 2, x.count(3));
+        // what is gone is not the heir's, so it keeps its names
+        CHECK.debt(x, 0, 2, 1, 0, 0, 3);
+        CHECK.debt(x, 1, 2, 1, 0, 1, -1);
+        CHECK.debt(x, 2, 1, 2, 0, 1, -1);
         x.wait(5);
         CHECK.lefts(x, 0, 0, 0, 32, 32);
         CHECK.same("what is gone is not late", -1, x.late(0));
